@@ -1,0 +1,45 @@
+import java.util.Objects;
+
+/** Counts the answers that are due and those that are not, and ends the program with 1 for the latter. */
+final class Checks {
+    interface Call {
+        Object answer();
+    }
+
+    private int promise = 0;
+    private int right = 0;
+    private int wrong = 0;
+
+    void promise(int number) {
+        promise = number;
+    }
+
+    void due(String what, Object want, Object got) {
+        if (Objects.equals(want, got)) {
+            right++;
+        } else {
+            wrong++;
+            System.out.println("promise " + promise + ": " + what + " answered " + got + ", due is " + want);
+        }
+    }
+
+    void dueThrow(String what, Class<? extends Exception> want, Call call) {
+        due(what, "throws." + want.getSimpleName(), answerOf(call));
+    }
+
+    /** The exact class is told, so that a subclass thrown by the machine is no right answer. */
+    static Object answerOf(Call call) {
+        try {
+            return call.answer();
+        } catch (RuntimeException thrown) {
+            return "throws." + thrown.getClass().getSimpleName();
+        }
+    }
+
+    void end(String name) {
+        System.out.println(name + ": " + right + " answers as due, " + wrong + " not");
+        if (wrong != 0 || right == 0) {
+            System.exit(1);
+        }
+    }
+}

@@ -6,12 +6,21 @@ final class Checks {
         Object answer();
     }
 
-    private int promise = 0;
+    private String label = "";
     private int right = 0;
     private int wrong = 0;
 
     void promise(int number) {
-        promise = number;
+        label = "promise " + number;
+    }
+
+    /** For a test whose own name tells its promise. */
+    void test(String name) {
+        label = name;
+    }
+
+    int answers() {
+        return right + wrong;
     }
 
     void due(String what, Object want, Object got) {
@@ -19,7 +28,7 @@ final class Checks {
             right++;
         } else {
             wrong++;
-            System.out.println("promise " + promise + ": " + what + " answered " + got + ", due is " + want);
+            System.out.println(label + ": " + what + " answered " + got + ", due is " + want);
         }
     }
 

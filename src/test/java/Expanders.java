@@ -41,7 +41,8 @@ final class Expanders {
     /** What a snippet gives, with a '|' for each stop. */
     static String given(ShorthandRules x, int snippet) {
         StringBuilder told = new StringBuilder();
-        for (int i = 0; i < x.lengthOf(snippet); i++) {
+        int length = x.lengthOf(snippet);
+        for (int i = 0; i < length; i++) {
             told.append(x.characterOf(snippet, i));
         }
         for (int i = x.stopsOf(snippet) - 1; i >= 0; i--) {
@@ -53,11 +54,13 @@ final class Expanders {
     /** The text with a '^' for the caret, and behind it the stops in their order. */
     static String text(ShorthandRules x) {
         StringBuilder told = new StringBuilder();
-        for (int i = 0; i < x.length(); i++) {
+        int length = x.length();
+        for (int i = 0; i < length; i++) {
             told.append(x.characterAt(i));
         }
         told.insert(x.caret(), '^');
-        for (int i = 0; i < x.stops(); i++) {
+        int stops = x.stops();
+        for (int i = 0; i < stops; i++) {
             told.append(' ').append(x.stopAt(i));
         }
         return told.toString();

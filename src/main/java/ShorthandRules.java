@@ -332,7 +332,7 @@ public final class ShorthandRules {
         changed.parts.add(part);
         measureAll();
         if (isSomeTooLarge()) {
-            changed.parts.remove(changed.parts.size() - 1);
+            changed.dropLastPart();
             measureAll();
             throw new IllegalStateException("the size of some snippet would be greater than 200");
         }
@@ -548,6 +548,12 @@ public final class ShorthandRules {
             return (reached >> number & 1) == 1;
         }
 
+        void dropLastPart() {
+            if (!parts.isEmpty()) {
+                parts.remove(parts.size() - 1);
+            }
+        }
+
         /** What is above the greatest size is told apart no further, so that no sum overflows. */
         void grow(int by) {
             size = Math.min(size + by, MOST_SIZE + 1);
@@ -755,7 +761,7 @@ public final class ShorthandRules {
                 return 0;
             }
             int removed = cells[index];
-            for (int i = index; i + 1 < count; i++) {
+            for (int i = index; i + 1 < count && i + 1 < cells.length; i++) {
                 cells[i] = cells[i + 1];
             }
             count--;

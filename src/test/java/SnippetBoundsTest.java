@@ -246,6 +246,37 @@ public final class SnippetBoundsTest {
         CHECKS.due("one to which 2 does not come", 1, Setups.sizedOverOthers(200).putCharacter(5, 'a'));
     }
 
+    /**
+     * "Some snippet" can have the lowest number or the highest one, and come to the changed one over all
+     * six others: each of them is twice in the one that comes to it, and the last one once in the outermost.
+     */
+    static void promise6TheSizeOfTheOutermostOfEight() {
+        for (boolean isLowestOutermost : new boolean[] {true, false}) {
+            int innermost = isLowestOutermost ? 7 : 0;
+            CHECKS.due("136 + 64", 1, doubling(isLowestOutermost, 9).putCharacter(innermost, 'a'));
+            new Refusals(CHECKS, "a", () -> doubling(isLowestOutermost, 10))
+                    .due("137 + 64", STATE, x -> x.putCharacter(innermost, 'a'));
+        }
+    }
+
+    /** The outermost one has the size 127 and more: (2 * (2 * (... 0 ...) + 2) + 2) + 1. */
+    private static ShorthandRules doubling(boolean isLowestOutermost, int more) {
+        ShorthandRules x = Expanders.with(8);
+        for (int i = 6; i >= 0; i--) {
+            int outer = isLowestOutermost ? i : 7 - i;
+            int inner = isLowestOutermost ? i + 1 : 6 - i;
+            x.putSnippet(outer, inner);
+            if (i > 0) {
+                x.putSnippet(outer, inner);
+            }
+        }
+        int outermost = isLowestOutermost ? 0 : 7;
+        for (int i = 0; i < more; i++) {
+            x.putStop(outermost);
+        }
+        return x;
+    }
+
     static void promise6EachCharacterThatCanBeTypedIsPut() {
         for (int character = 0; character <= Character.MAX_VALUE; character++) {
             char put = (char) character;

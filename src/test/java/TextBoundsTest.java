@@ -856,6 +856,30 @@ public final class TextBoundsTest {
         match.due("all that match are cleared", -1, x);
     }
 
+    /** 8 triggers of 6 characters, which differ in their last ones: no tree of triggers is larger. */
+    private static void ofTheLargestTree(Match match) {
+        for (int i = 0; i < 8; i++) {
+            String trigger = "1234" + i + (char) ('a' + i);
+            for (int changed = 0; changed < 6; changed++) {
+                StringBuilder text = new StringBuilder(trigger);
+                text.setCharAt(changed, '.');
+                match.due("all but one character of " + i, -1, typedWhileOff(Setups.full(), text.toString()));
+            }
+            match.due("the trigger of " + i, i, typedWhileOff(Setups.full(), trigger));
+        }
+    }
+
+    private static ShorthandRules typedWhileOff(ShorthandRules x, String text) {
+        for (int i = 0; i < 8; i++) {
+            x.setOn(i, false);
+        }
+        Expanders.type(x, text);
+        for (int i = 0; i < 8; i++) {
+            x.setOn(i, true);
+        }
+        return x;
+    }
+
     static void promise33OfNothing() {
         ofNothing(TextBoundsTest::matchesInTheTree);
     }
@@ -880,6 +904,10 @@ public final class TextBoundsTest {
         ofEight(TextBoundsTest::matchesInTheTree);
     }
 
+    static void promise33OfTheLargestTree() {
+        ofTheLargestTree(TextBoundsTest::matchesInTheTree);
+    }
+
     static void promise34OfNothing() {
         ofNothing(TextBoundsTest::matchesByLooking);
     }
@@ -902,6 +930,10 @@ public final class TextBoundsTest {
 
     static void promise34OfEight() {
         ofEight(TextBoundsTest::matchesByLooking);
+    }
+
+    static void promise34OfTheLargestTree() {
+        ofTheLargestTree(TextBoundsTest::matchesByLooking);
     }
 
     // Promise 35: saved, "the sum, which can be less than 0".

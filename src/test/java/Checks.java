@@ -36,13 +36,21 @@ final class Checks {
         due(what, "throws." + want.getSimpleName(), answerOf(call));
     }
 
-    /** The exact class is told, so that a subclass thrown by the machine is no right answer. */
+    /**
+     * The exact class is told, so that a subclass thrown by the machine is no right answer; one that the
+     * library throws, as a list for a wrong index, is none either.
+     */
     static Object answerOf(Call call) {
         try {
             return call.answer();
         } catch (RuntimeException thrown) {
-            return "throws." + thrown.getClass().getSimpleName();
+            return (isOfLibrary(thrown) ? "library throws." : "throws.") + thrown.getClass().getSimpleName();
         }
+    }
+
+    private static boolean isOfLibrary(RuntimeException thrown) {
+        StackTraceElement[] trace = thrown.getStackTrace();
+        return trace.length > 0 && trace[0].getModuleName() != null;
     }
 
     void end(String name) {

@@ -5,18 +5,50 @@ import java.lang.reflect.Modifier;
 import java.util.Set;
 import java.util.TreeSet;
 
-/** The public face: the members that the document names, with their types, and no other one. */
+/** The public face: the members that the document names, with their types and exceptions, and no other one. */
 public final class FaceTest {
+    /** The lines of the document, without the names of the parameters. */
     private static final Set<String> FACE = Set.of(
-            "int addSnippet(boolean)", "int addToTrigger(int, char)", "int clearTrigger(int)",
-            "boolean setOn(int, boolean)", "int putCharacter(int, char)", "int putSnippet(int, int)",
-            "int putChoice(int, int, int)", "int putDate(int, int, char)", "int putStop(int)",
-            "int clearBody(int)", "boolean choose(int, boolean)", "int setToday(int)", "int lengthOf(int)",
-            "char characterOf(int, int)", "int stopsOf(int)", "int stopOf(int, int)", "boolean comesTo(int, int)",
-            "int depth(int)", "boolean isShadowedBy(int, int)", "int shadower(int)", "int clashes()",
-            "int key(char)", "char erase()", "int moveCaret(int)", "int nextStop()", "int undo()", "int length()",
-            "char characterAt(int)", "int caret()", "int stops()", "int stopAt(int)", "int matching()",
-            "int matchingByLooking()", "long saved()", "float keptShare()");
+            "int addSnippet(boolean) throws IllegalStateException",
+            "int addToTrigger(int, char)"
+                    + " throws IndexOutOfBoundsException, IllegalArgumentException, IllegalStateException",
+            "int clearTrigger(int) throws IndexOutOfBoundsException",
+            "boolean setOn(int, boolean) throws IndexOutOfBoundsException",
+            "int putCharacter(int, char)"
+                    + " throws IndexOutOfBoundsException, IllegalArgumentException, IllegalStateException",
+            "int putSnippet(int, int)"
+                    + " throws IndexOutOfBoundsException, UnsupportedOperationException, IllegalStateException",
+            "int putChoice(int, int, int)"
+                    + " throws IndexOutOfBoundsException, UnsupportedOperationException, IllegalStateException",
+            "int putDate(int, int, char)"
+                    + " throws IndexOutOfBoundsException, IllegalArgumentException, IllegalStateException",
+            "int putStop(int) throws IndexOutOfBoundsException, IllegalStateException",
+            "int clearBody(int) throws IndexOutOfBoundsException",
+            "boolean choose(int, boolean) throws IndexOutOfBoundsException",
+            "int setToday(int) throws IllegalArgumentException",
+            "int lengthOf(int) throws IndexOutOfBoundsException",
+            "char characterOf(int, int) throws IndexOutOfBoundsException, NoSuchElementException",
+            "int stopsOf(int) throws IndexOutOfBoundsException",
+            "int stopOf(int, int) throws IndexOutOfBoundsException, NoSuchElementException",
+            "boolean comesTo(int, int) throws IndexOutOfBoundsException",
+            "int depth(int) throws IndexOutOfBoundsException",
+            "boolean isShadowedBy(int, int) throws IndexOutOfBoundsException",
+            "int shadower(int) throws IndexOutOfBoundsException, NoSuchElementException",
+            "int clashes()",
+            "int key(char) throws IllegalArgumentException, IllegalStateException",
+            "char erase() throws NoSuchElementException",
+            "int moveCaret(int) throws IllegalArgumentException",
+            "int nextStop() throws NoSuchElementException",
+            "int undo() throws IllegalStateException",
+            "int length()",
+            "char characterAt(int) throws IndexOutOfBoundsException",
+            "int caret()",
+            "int stops()",
+            "int stopAt(int) throws IndexOutOfBoundsException",
+            "int matching()",
+            "int matchingByLooking()",
+            "long saved()",
+            "float keptShare() throws NoSuchElementException");
 
     private static final Checks CHECKS = new Checks();
 
@@ -34,6 +66,7 @@ public final class FaceTest {
         for (Field field : face.getDeclaredFields()) {
             CHECKS.due("private " + field.getName(), true, Modifier.isPrivate(field.getModifiers()));
         }
+        CHECKS.due("private methods with the name of a public one", Set.of(), namesTwice(face));
         CHECKS.end("FaceTest");
     }
 
@@ -47,12 +80,32 @@ public final class FaceTest {
         return told;
     }
 
+    private static Set<String> namesTwice(Class<?> face) {
+        Set<String> names = new TreeSet<>();
+        for (Method method : face.getDeclaredMethods()) {
+            if (!Modifier.isPrivate(method.getModifiers())) {
+                names.add(method.getName());
+            }
+        }
+        Set<String> twice = new TreeSet<>();
+        for (Method method : face.getDeclaredMethods()) {
+            if (Modifier.isPrivate(method.getModifiers()) && names.contains(method.getName())) {
+                twice.add(method.getName());
+            }
+        }
+        return twice;
+    }
+
     private static String line(Method method) {
         StringBuilder line = new StringBuilder(method.getReturnType().getName());
         line.append(' ').append(method.getName()).append('(');
         for (Class<?> type : method.getParameterTypes()) {
             line.append(line.charAt(line.length() - 1) == '(' ? "" : ", ").append(type.getName());
         }
-        return line.append(')').toString();
+        line.append(')');
+        for (Class<?> thrown : method.getExceptionTypes()) {
+            line.append(line.indexOf(" throws ") < 0 ? " throws " : ", ").append(thrown.getSimpleName());
+        }
+        return line.toString();
     }
 }
